@@ -79,8 +79,8 @@ public final class EchoValley {
         if (!isDay(day)) {
             return finding(BEYOND);
         }
-        int was = valley.rainy[day] ? 1 : 0;
-        valley.rainy[day] = is;
+        int was = valley.rain[day];
+        valley.rain[day] = is ? 1 : 0;
         return was;
     }
 
@@ -88,14 +88,10 @@ public final class EchoValley {
         if (!isDay(from) || !isDay(to) || to < from || chance < 0 || chance > MOST_CHANCE) {
             return finding(BEYOND);
         }
-        int wet = 0;
         for (int day = from; day <= to; day++) {
-            valley.rainy[day] = valley.draw() % 100 < chance;
-            if (valley.rainy[day]) {
-                wet++;
-            }
+            valley.rain[day] = valley.draw() % 100 < chance ? 1 : 0;
         }
-        return wet;
+        return valley.rainyDays(from, to);
     }
 
     public int keep(int v) {
@@ -590,7 +586,7 @@ public final class EchoValley {
             case 2:
                 return valley.ways.total();
             case 3:
-                return valley.rainyDays(-1, DAYS - 1);
+                return valley.rainyDays(0, DAYS - 1);
             case 4:
                 return valley.keeping;
             case 5:
@@ -680,7 +676,7 @@ public final class EchoValley {
         return (set >> i & 1) == 1;
     }
 
-    /** What SAYINGS of each KIND do; a KIND that isn't named in a switch does as the one above it. */
+    /** What SAYINGS of each KIND do. One that a switch doesn't name does there as a ONCE one, all KINDS above it too. */
     private static final class Kinds {
         static final int ONCE = 0;
         static final int KEPT = 1;
@@ -922,7 +918,7 @@ public final class EchoValley {
         private final Ways ways = new Ways();
         private final Sayings sayings = new Sayings();
         private final People people = new People();
-        private final boolean[] rainy = new boolean[DAYS];
+        private final int[] rain = new int[DAYS];
         private final int[] spots = new int[SPOTS];
         private int today;
         private int keeping = FIRST_KEEP;
@@ -936,7 +932,7 @@ public final class EchoValley {
             ways.become(other.ways);
             sayings.become(other.sayings);
             people.become(other.people);
-            System.arraycopy(other.rainy, 0, rainy, 0, DAYS);
+            System.arraycopy(other.rain, 0, rain, 0, DAYS);
             System.arraycopy(other.spots, 0, spots, 0, SPOTS);
             today = other.today;
             keeping = other.keeping;
@@ -948,18 +944,16 @@ public final class EchoValley {
             return z >>> 8;
         }
 
-        int rainyDays(int behind, int upTo) {
+        int rainyDays(int from, int to) {
             int number = 0;
-            for (int day = behind + 1; day <= upTo; day++) {
-                if (rainy[day]) {
-                    number++;
-                }
+            for (int day = from; day <= to; day++) {
+                number += rain[day];
             }
             return number;
         }
 
         int ageOf(int own, int day) {
-            return day - own + rainyDays(own, day);
+            return day - own + rainyDays(own + 1, day);
         }
 
         int lastsOf(int s) {
@@ -1224,7 +1218,7 @@ public final class EchoValley {
             if (day < 0) {
                 return false;
             }
-            draft.rainy[day] = true;
+            draft.rain[day] = 1;
             return true;
         }
 
@@ -1326,7 +1320,8 @@ public final class EchoValley {
 
         private void reckonValue() {
             for (int i = start; i < end; i++) {
-                value = Math.min(TOO_LARGE, 10 * value + bytes[i] - '0');
+                // So that a long one doesn't go round to a small value.
+                value = value >= TOO_LARGE ? TOO_LARGE : 10 * value + bytes[i] - '0';
             }
         }
 

@@ -51,6 +51,10 @@ public final class HeardTest {
         due.due("19: the loudest", x.plain(0, 207), 3);
         due.due("19: one", x.plain(5, 207), 1);
         due.due("19: none", x.plain(6, 207), Due.NONE);
+        EchoValley y = new EchoValley();
+        y.say(Due.LOW, 0, 8, 0, 0);
+        y.say(Due.LOW, 0, 7, 0, 0);
+        due.due("19: the loudest comes first", y.plain(0, 100), 8);
         x.say(Due.ONCE, 5, 1, 1, 7);
         due.due("18: one word twice", x.words(1, 207), Due.set(0, 5, 15));
         due.due("16: it counts twice", x.heard(1, 207), 4);
@@ -92,6 +96,11 @@ public final class HeardTest {
         x.person(5, 8, 7, 7);
         x.person(3, 1, 7, 8);
         due.due("20: people", x.alone(207), Due.set(6, 7, 9));
+        x.person(0, 9, 9, 9);
+        due.due("20: person 0", x.alone(209), 1023 & ~Due.set(9));
+        EchoValley y = new EchoValley();
+        y.say(Due.ONCE, 0, 1, 4, 9);
+        due.due("20: saying 0", y.alone(109), 1023 & ~Due.set(4));
         due.due("20: people where nothing is heard", x.alone(107), 1023 & ~Due.set(1, 8));
         due.due("20: another hour", x.alone(108), 1023 & ~Due.set(1));
         due.due("20: too late", x.alone(2008), 1023 & ~Due.set(1));

@@ -7,6 +7,7 @@ public final class ImagesTest {
         whatIsNotKept();
         theLatestImage();
         imageIsApart();
+        whatIsTakenBackIsNotHeard();
         tear();
         count();
         heardToday();
@@ -140,6 +141,30 @@ public final class ImagesTest {
         due.due("36: a text", Due.read(x, "way 5 6;keep 2;rain 50;person 0 at 7;once 1 at 1 hour 1"), 5);
         due.due("45: undo behind a text", x.undo(), 2);
         dueAsMade("45: as kept", x);
+    }
+
+    private static void whatIsTakenBackIsNotHeard() {
+        EchoValley x = new EchoValley();
+        x.person(0, 3, 0, 23);
+        x.say(Due.LOW, 1, 1, 2, 5);
+        x.image();
+        x.say(Due.ONCE, 2, 9, 3, 5);
+        x.say(Due.OVER, 4, 9, 2, 5);
+        due.due("45: said", x.heard(3, 105), 1);
+        due.due("45: said over", x.over(0), 2);
+        x.undo();
+        due.due("45: its number isn't one", x.sayingOf(1, 0), Due.BEYOND);
+        due.due("45: not held", x.hold(0, 1), Due.BEYOND);
+        due.due("45: not heard", x.heard(3, 105), 0);
+        due.due("45: no words", x.words(3, 105), 0);
+        due.due("45: alone", x.alone(105), 1023 & ~Due.set(2, 3));
+        due.due("45: not full", x.full(3, 1), 0);
+        due.due("45: she hears none", x.hears(0, 1), 0);
+        due.due("45: nor that word", x.first(0, 2), Due.NONE);
+        due.due("45: not said over", x.over(0), Due.NONE);
+        due.due("45: no walk to it", x.walk(3, 105, 1), 0);
+        x.days(1);
+        due.due("45: one is heard", x.count(7), 1);
     }
 
     private static void tear() {

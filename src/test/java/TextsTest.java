@@ -79,6 +79,7 @@ public final class TextsTest {
                 due.due("36: " + kinds[kind] + ", " + what, x.sayingOf(kind, what), is[what]);
             }
         }
+        due.due("36: the least of all", Due.read(new EchoValley(), "once 0 at 0 hour 0 loud 1"), 1);
         due.due("36: not loud", Due.read(x, "once 1 at 2 hour 3"), 1);
         int[] is = {0, 1, 1, 2, 3, 4};
         for (int what = 0; what < is.length; what++) {
@@ -99,6 +100,9 @@ public final class TextsTest {
         due.due("36: the last hour", Due.read(x, "person 0 at 4 hours 23 23"), 1);
         due.due("36: the last hour", x.where(0, 23), 4);
         due.due("36: the one ahead", x.where(0, 22), -1);
+        due.due("36: the first hour", Due.read(x, "person 0 at 0 hours 0 0"), 1);
+        due.due("36: the first hour", x.where(0, 0), 0);
+        due.due("36: the one behind", x.where(0, 1), -1);
     }
 
     private static void keepAndRainItems() {
@@ -161,7 +165,8 @@ public final class TextsTest {
             "person 0 at 0 hours 24 24", "person 0 at 0 hours 5", "person 0 at 0 hours 5 4",
             "person 0 at 0 hours 5 24", "person 0 at 0 hours 5 6 7", "keep", "keep 0", "keep 21", "keep 1 1",
             "rain 100", "rain x", "rain -1", "loud 3", "at 3", "keep 5;keep 6;kept", "keep 5\nkeep 6", "keep\t5",
-            "keep 5;{", "keep 5`", "keep 5/", "keep 5:", "keep 5 ?;"};
+            "keep 5;{", "keep 5`", "keep 5/", "keep 5:", "keep 5 ?;",
+            "wayz 0 1", "xay 0 1", "waz 0 1", "once 1", "person", "person 0", "person 0 at", "rain", "keep 5 5"};
         int[] places = {0, 1, 0, 0, 0, 0, 3, 4, 4, 4, 5,
             5, 6, 6, 6, 8, 8, 8, 9,
             8, 7, 8, 4, 5,
@@ -173,7 +178,8 @@ public final class TextsTest {
             20, 21, 22,
             22, 24, 4, 5, 5, 7,
             5, 5, 5, 0, 0, 18, 6, 4,
-            7, 6, 6, 6, 7};
+            7, 6, 6, 6, 7,
+            0, 0, 0, 6, 6, 8, 11, 4, 7};
         due.due("as many places as texts", places.length, texts.length);
         for (int i = 0; i < texts.length && i < places.length; i++) {
             dueFault(texts[i], places[i]);
