@@ -145,6 +145,7 @@ public final class ImagesTest {
 
     private static void whatIsTakenBackIsNotHeard() {
         EchoValley x = new EchoValley();
+        x.way(3, 4, true);
         x.person(0, 3, 0, 23);
         x.say(Due.LOW, 1, 1, 2, 5);
         x.image();
