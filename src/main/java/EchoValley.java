@@ -676,7 +676,7 @@ public final class EchoValley {
         return (set >> i & 1) == 1;
     }
 
-    /** What SAYINGS of each KIND do. One that a switch doesn't name does there as a ONCE one, all KINDS above it too. */
+    /** What SAYINGS of each KIND do; one that a switch doesn't name does there as a ONCE one. */
     private static final class Kinds {
         static final int ONCE = 0;
         static final int KEPT = 1;
