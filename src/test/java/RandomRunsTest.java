@@ -45,7 +45,7 @@ public final class RandomRunsTest {
     }
 
     private void go() {
-        while (calls < CALLS - 40) {
+        while (calls < CALLS - 80) {
             if (random.nextInt(100) < 45) {
                 some(CHANGES);
             } else {
