@@ -11,6 +11,7 @@ public final class HeardEdgesTest {
         stepsAreTheFewest();
         inItsHour();
         overFromItsDayOn();
+        overForGood();
         overAtTheSamePlaceAndHour();
         overByLoud();
         overBehindIt();
@@ -19,6 +20,7 @@ public final class HeardEdgesTest {
         thereInItsHour();
         aloneAndFull();
         needsToTheDay();
+        needsNewOnes();
         tellTheLeast();
         due.end();
     }
@@ -169,6 +171,26 @@ public final class HeardEdgesTest {
         }
     }
 
+    /** Also when what was said OVER it isn't HEARD any more, or is said OVER itself. */
+    private static void overForGood() {
+        EchoValley x = said(Due.KEPT, 1, 4, 4, 0);
+        x.days(2);
+        x.say(Due.HUSHED, 1, 9, 4, 4);
+        due.due("13: a hushed one drowns none", x.until(0), 18);
+        x.say(Due.OVER, 2, 1, 4, 4);
+        due.due("16: both are said over", x.heard(4, 304), 1);
+        due.due("17: the last alone", x.which(4, 304, 0), 2);
+        due.due("13: till then", x.until(0), 1);
+        due.due("13: the last", x.until(2), 11);
+        due.due("16: none behind that", x.heard(4, 1204), 0);
+        due.due("16: nor on day 18", x.heard(4, 1804), 0);
+        x.say(Due.CURSED, 3, 1, 4, 4);
+        due.due("12: by the first", x.over(0), 2);
+        due.due("12: which is said over", x.over(2), 3);
+        due.due("13: till then still", x.until(0), 1);
+        due.due("13: at once", x.until(2), Due.NONE);
+    }
+
     private static void overAtTheSamePlaceAndHour() {
         for (int place = 0; place <= 9; place++) {
             for (int hour = 0; hour <= 23; hour++) {
@@ -292,6 +314,22 @@ public final class HeardEdgesTest {
                 }
             }
         }
+    }
+
+    /** What is said already doesn't count, nor does RAIN up to TODAY. */
+    private static void needsNewOnes() {
+        EchoValley x = said(Due.KEPT, 1, 0, 0, 0);
+        due.due("29: one", x.needs(9), 1);
+        due.due("29: two", x.needs(10), 2);
+        x.say(Due.OVER, 1, 9, 0, 0);
+        due.due("29: one still", x.needs(9), 1);
+        x.days(5);
+        x.weather(0, 5, 100);
+        due.due("29: one behind today's rain", x.needs(14), 1);
+        due.due("29: two", x.needs(15), 2);
+        x.rain(6, true);
+        due.due("29: one in tomorrow's rain", x.needs(13), 1);
+        due.due("29: two", x.needs(14), 2);
     }
 
     /** The least LOUD, then the least HOUR, then the PLACE: no louder one, no later one. */

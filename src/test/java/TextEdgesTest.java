@@ -181,6 +181,14 @@ public final class TextEdgesTest {
                 x.feed(b, 1);
                 due.due("byte " + b + " for a WORD", x.text(), -1 - 7);
             }
+            Due.put(x, "keep");
+            x.feed(b, 1);
+            Due.put(x, "5");
+            due.due("byte " + b + " right behind a WORD", x.text(), b < 'a' || b > 'z' ? -1 - 4 : -1);
+            Due.put(x, "way 0");
+            x.feed(b, 1);
+            Due.put(x, "1");
+            due.due("byte " + b + " right behind a NUMBER", x.text(), -1 - 5);
         }
     }
 

@@ -83,7 +83,7 @@ final class Probe {
         }
     }
 
-    /** Numbers that are PLACES are told by load(); by copy() which sheets are of as many bits. */
+    /** Numbers that are PLACES are told by load(), and so is by 255 and 65535 of how many bits they are. */
     private void sheets() {
         for (int s = 0; s < 4; s++) {
             x.person(5, -1, 0, 23);
@@ -94,7 +94,9 @@ final class Probe {
             }
             line("write(" + s + ", " + Math.max(0, came) + ", 0)", x.write(s, Math.max(0, came), 0));
             line("write(" + s + ", 0, 255)", x.write(s, 0, 255));
-            line("load(" + s + ", 5) behind it", x.load(s, 5));
+            line("load(" + s + ", 5) of 255", x.load(s, 5));
+            line("write(" + s + ", 0, 65535)", x.write(s, 0, 65535));
+            line("load(" + s + ", 5) of 65535", x.load(s, 5));
             for (int t = 0; t < 4; t++) {
                 line("copy(" + s + ", 0, " + t + ", 0, 0)", x.copy(s, 0, t, 0, 0));
             }
